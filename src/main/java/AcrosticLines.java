@@ -600,7 +600,7 @@ public final class AcrosticLines {
             case MIDDLE: return n / 2;
             case STEP: return step;
             case BACK: return last - step;
-            case TURN: return isOdd(j) ? last : 0;
+            case TURN: return (j & 1) == 1 ? last : 0;
             default: return 0;
         }
     }
@@ -620,8 +620,11 @@ public final class AcrosticLines {
     }
 
     private static int letterOf(int code, int n, int place) {
-        int power = at(POWERS, n - 1 - place);
-        return power > 0 ? code / power % 10 : NONE;
+        int rest = code;
+        for (int behind = n - 1; behind > place; behind--) {
+            rest /= 10;
+        }
+        return rest % 10;
     }
 
     private static boolean isKind(int kind) {
@@ -643,10 +646,6 @@ public final class AcrosticLines {
 
     private static boolean within(int number, int least, int most) {
         return number >= least && number <= most;
-    }
-
-    private static boolean isOdd(int j) {
-        return (j & 1) == 1;
     }
 
     private static boolean hasBit(int bits, int i) {
@@ -772,8 +771,8 @@ public final class AcrosticLines {
         }
 
         int letterBy(int form, int w, int j) {
-            int n = lengthOf(w);
-            return letterOf(codeOf(w), n, placeOf(form, n, j));
+            int n = at(wordLengths, w);
+            return letterOf(at(wordCodes, w), n, placeOf(form, n, j));
         }
 
         boolean fitsBy(int form, int w, int j) {
@@ -1087,17 +1086,22 @@ public final class AcrosticLines {
             end = 0;
             items = 0;
             advance();
-            if (!readVerse(v)) {
-                return false;
-            }
-            advance();
-            for (int i = 0; i < TEXT_MOST && token != END; i++) {
-                if (!readItem(v)) {
-                    return false;
-                }
+            boolean isRead = readVerse(v);
+            for (int i = 0; i < TEXT_MOST && isRead; i++) {
+                items++;
                 advance();
+                if (token == END) {
+                    return true;
+                }
+                if (isName("word")) {
+                    isRead = readWord(v);
+                } else if (isName("put")) {
+                    isRead = readPut(v);
+                } else {
+                    isRead = isName("take") && readTake(v);
+                }
             }
-            return true;
+            return false;
         }
 
         private boolean readVerse(Verse v) {
@@ -1109,21 +1113,7 @@ public final class AcrosticLines {
                 return false;
             }
             v.begin(kind, letterCount, letterCode);
-            items++;
             return true;
-        }
-
-        private boolean readItem(Verse v) {
-            boolean isRead = false;
-            if (isName("word")) {
-                isRead = readWord(v);
-            } else if (isName("put")) {
-                isRead = readPut(v);
-            } else if (isName("take")) {
-                isRead = readTake(v);
-            }
-            items++;
-            return isRead;
         }
 
         private boolean readWord(Verse v) {
@@ -1199,26 +1189,29 @@ public final class AcrosticLines {
             value = 0;
             if (start >= length) {
                 token = END;
-            } else if (isLetter(end)) {
+                return;
+            }
+            int sign = at(bytes, start);
+            if (isLetter(sign)) {
                 token = NAME;
                 passLetters();
-            } else if (isFigure(end)) {
+            } else if (isFigure(sign)) {
                 token = NUMBER;
                 passFigures();
             } else {
-                token = at(bytes, start) == ';' ? STOP : STRANGE;
+                token = sign == ';' ? STOP : STRANGE;
                 end++;
             }
         }
 
         private void passLetters() {
-            while (end < length && isLetter(end)) {
+            while (end < length && isLetter(at(bytes, end))) {
                 end++;
             }
         }
 
         private void passFigures() {
-            while (end < length && isFigure(end)) {
+            while (end < length && isFigure(at(bytes, end))) {
                 if (end - start < FIGURES_MOST) {
                     value = 10 * value + at(bytes, end) - '0';
                 }
@@ -1229,12 +1222,12 @@ public final class AcrosticLines {
             }
         }
 
-        private boolean isLetter(int i) {
-            return within(at(bytes, i), 'a', 'z');
+        private static boolean isLetter(int sign) {
+            return sign >= 'a' && sign <= 'z';
         }
 
-        private boolean isFigure(int i) {
-            return within(at(bytes, i), '0', '9');
+        private static boolean isFigure(int sign) {
+            return sign >= '0' && sign <= '9';
         }
     }
 }

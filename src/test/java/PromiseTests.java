@@ -351,6 +351,45 @@ public final class PromiseTests {
         a.takes(3);
         a.verse(0, 3, 0);
         C.same("11: none behind a verse", a.undo(), -3);
+        undoOfEleven();
+    }
+
+    /** Each of eleven lines changed leaves other words, and each of the last eight is undone. */
+    private static void undoOfEleven() {
+        AcrosticLines a = new AcrosticLines();
+        a.verse(1, 6, 123456);
+        for (int w = 0; w < 8; w++) {
+            a.word(0, 3, w);
+        }
+        long[] stood = new long[12];
+        for (int i = 0; i < 6; i++) {
+            stood[i] = standing(a);
+            a.puts(i, 5 - i);
+        }
+        stood[6] = standing(a);
+        a.swaps(0, 5);
+        stood[7] = standing(a);
+        a.takes(2);
+        stood[8] = standing(a);
+        a.puts(2, 7);
+        stood[9] = standing(a);
+        a.takes(4);
+        stood[10] = standing(a);
+        a.swaps(4, 1);
+        for (int i = 10; i >= 3; i--) {
+            long right = a.undo();
+            C.same("11: of eleven, undone to " + i, standing(a), stood[i]);
+            C.same("11: how many are right then", right, a.count(5));
+        }
+        C.same("11: of eleven, eight", a.undo(), -3);
+    }
+
+    private static long standing(AcrosticLines a) {
+        long all = 0;
+        for (int j = 0; j < 6; j++) {
+            all = 10 * all + 1 + a.about(j, 0);
+        }
+        return all;
     }
 
     private static void promise12() {
@@ -807,6 +846,13 @@ public final class PromiseTests {
         C.same("32: every other time", a.evenings(999999, 59), 30);
         C.same("32: no evenings", a.evenings(5, 0), 0);
         C.same("32: nothing is changed", a.digest(), digest);
+        AcrosticLines e = alike(8, 3);
+        C.same("32: three lines", e.evenings(1, 60), 9);
+        C.same("32: three lines", e.evenings(999999, 40), 2);
+        e.verse(1, 2, 35);
+        e.word(0, 3, 3);
+        e.word(0, 3, 5);
+        C.same("32: two words", e.evenings(7, 60), 2);
         // from seed 0, X is 12345 at the first evening: line 0, word 0
         AcrosticLines b = new AcrosticLines();
         b.verse(0, 1, 0);
@@ -835,6 +881,10 @@ public final class PromiseTests {
         C.same("35: the other one", a.from(1), -3);
         a.verse(2, 5, 55555);
         a.word(5, 6, 123456);
+        a.note(6, 5, 4);
+        a.mark(0, 6, 5, 4);
+        a.puts(3, 0);
+        a.takes(3);
         a.image(1);
         long other = a.digest();
         C.same("35: from", a.from(0), 1);

@@ -11,6 +11,7 @@ public final class RandomTests {
     private static final String[] ASKING = {"of", "about", "fits", "ways", "first", "cheap", "more",
         "needs", "held", "forms", "rows", "is", "look", "kinds", "ask", "poets", "luck", "evenings",
         "part", "status", "count", "digest"};
+    private static final String[] LINES = {"puts", "puts", "puts", "takes", "swaps", "swaps", "undo"};
     private static final Map<String, Integer> ARGUMENTS = new HashMap<>();
 
     private final Random random;
@@ -54,8 +55,9 @@ public final class RandomTests {
             call("word", random.nextInt(6), n, code(n));
         }
         int calls = 60 + random.nextInt(140);
+        boolean onlyLines = random.nextInt(3) == 0;
         for (int i = 0; i < calls; i++) {
-            String[] among = random.nextInt(3) == 0 ? SETTING : ASKING;
+            String[] among = random.nextInt(3) != 0 ? ASKING : onlyLines ? LINES : SETTING;
             one(among[random.nextInt(among.length)]);
             if (i % 10 == 0) {
                 call("digest");
