@@ -6,6 +6,7 @@ public final class PromiseTests {
     public static void main(String[] args) {
         promise1();
         promise2();
+        codesByLength();
         promise3();
         promise4();
         promises5And6();
@@ -112,6 +113,23 @@ public final class PromiseTests {
             {0, 6, 1000000}, {LEAST, 3, 0}, {0, GREATEST, 0}, {0, LEAST, 0}, {0, 3, GREATEST}, {0, 3, LEAST}};
         for (int[] b : bad) {
             refused(a, "2: verse", -2, a.digest(), a.status(0), a.verse(b[0], b[1], b[2]), -2);
+        }
+    }
+
+    /** The greatest code of each length is as told, one more is not. */
+    private static void codesByLength() {
+        AcrosticLines a = new AcrosticLines();
+        int nines = 0;
+        for (int n = 1; n <= 6; n++) {
+            nines = 10 * nines + 9;
+            C.same("2: " + n + " nines", a.verse(0, n, nines), 0);
+            C.same("2: the target's code", a.count(3), nines);
+            C.same("2: more than " + n + " nines", a.verse(0, n, nines + 1), -2);
+        }
+        for (int n = 3, code = 999; n <= 6; n++, code = 10 * code + 9) {
+            C.same("4: " + n + " nines", a.word(0, n, code), n - 3);
+            C.same("4: the word's code", a.of(n - 3, 2), code);
+            C.same("4: more than " + n + " nines", a.word(0, n, code + 1), -2);
         }
     }
 
