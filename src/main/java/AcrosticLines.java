@@ -11,6 +11,7 @@ public final class AcrosticLines {
 
     private static final int WORDS_MOST = 8;
     private static final int WORD_SETS = 256;
+    private static final int WORD_BITS = 3;
     private static final int SHORTEST = 3;
     private static final int LONGEST = 6;
     private static final int LINES_MOST = 6;
@@ -1034,20 +1035,25 @@ public final class AcrosticLines {
             Arrays.fill(seenRows, 0);
             rowCount = 0;
             greatestRow = NONE;
-            spellRowsFrom(v, Math.min(n, ROW_MOST), 0, 0, 0);
+            int rows = 1 << WORD_BITS * Math.max(0, Math.min(n, ROW_MOST));
+            for (int row = 0; row < rows; row++) {
+                spellRow(v, n, row);
+            }
         }
 
-        private void spellRowsFrom(Verse v, int n, int line, int used, int code) {
-            if (line >= n) {
-                seeRow(code);
-                return;
-            }
-            for (int w = 0; w < v.wordCount; w++) {
-                if (!hasBit(used, w)) {
-                    int longer = 10 * code + v.letterBy(v.formKind, w, line);
-                    spellRowsFrom(v, n, line + 1, used | 1 << w, longer);
+        /** A row is a number: its lowest bits are the word on line 0, the next ones that on line 1. */
+        private void spellRow(Verse v, int n, int row) {
+            int used = 0;
+            int code = 0;
+            for (int line = 0; line < n; line++) {
+                int w = row >> WORD_BITS * line & WORDS_MOST - 1;
+                if (!v.hasWord(w) || hasBit(used, w)) {
+                    return;
                 }
+                used |= 1 << w;
+                code = 10 * code + v.letterBy(v.formKind, w, line);
             }
+            seeRow(code);
         }
 
         private void seeRow(int code) {
