@@ -6,6 +6,8 @@ import java.lang.reflect.Modifier;
 import java.nio.file.Files;
 import java.nio.file.Path;
 import java.util.Arrays;
+import java.util.HashMap;
+import java.util.Map;
 import java.util.Set;
 import java.util.TreeSet;
 import java.util.regex.Matcher;
@@ -102,6 +104,7 @@ public final class FaceTests {
         }
         rowsAreUsedByTheGuards(bare);
         methodsAreShort(code);
+        callsAreFlat(bare);
     }
 
     /** An index stands in at and set alone, where it is looked at; the machine must never throw. */
@@ -112,6 +115,32 @@ public final class FaceTests {
             boolean isGuarded = index.group().equals("w[i]");
             C.holds(index.group() + " is a guarded index or a new row", isNew || isGuarded);
         }
+    }
+
+    /** Rules 8 and 11: no method comes back to itself, and eight calls at most stand open at once. */
+    private static void callsAreFlat(String bare) {
+        Map<String, String> bodies = new HashMap<>();
+        Pattern method = Pattern.compile("(?ms)^( {4}| {8})(?! |if|for|while|switch|else)[\\w\\[\\] ]*?(\\w+)\\([^()]*\\) \\{$(.*?)^\\1\\}");
+        Matcher found = method.matcher(bare);
+        while (found.find()) {
+            C.holds(found.group(2) + " is the name of one method", bodies.put(found.group(2), found.group(3)) == null);
+        }
+        C.holds("the methods are found: " + bodies.size(), bodies.size() > 100 && bodies.containsKey("passFigures"));
+        for (String name : bodies.keySet()) {
+            int open = openCalls(name, bodies, 0);
+            C.holds(name + " comes to " + open + " open calls", open <= 8);
+        }
+    }
+
+    private static int openCalls(String name, Map<String, String> bodies, int above) {
+        int deepest = 0;
+        Matcher call = Pattern.compile("\\b(\\w+)\\(").matcher(bodies.get(name));
+        while (call.find() && above < 20) {
+            if (bodies.containsKey(call.group(1))) {
+                deepest = Math.max(deepest, openCalls(call.group(1), bodies, above + 1));
+            }
+        }
+        return 1 + deepest;
     }
 
     private static void methodsAreShort(String code) {

@@ -35,6 +35,7 @@ public final class SeenBoundTests {
         eveningsFromEmptyLines();
         imagesNotKept();
         imagesKeptAgain();
+        imagesKeepWhatMayBeUndone();
         whatImagesLeave();
         statusOfEachReason();
         statusOfAnotherWhat();
@@ -445,6 +446,29 @@ public final class SeenBoundTests {
         C.same("35: a second time", a.from(1), 1);
         C.same("35: as kept last", a.digest(), digest);
         C.same("35: of a full one", Bounds.full().from(0), 1);
+    }
+
+    /** What may be undone in an image is not what was changed since. */
+    private static void imagesKeepWhatMayBeUndone() {
+        for (int image = 0; image < 2; image++) {
+            AcrosticLines a = Bounds.full();
+            a.image(image);
+            a.verse(0, 6, 0);
+            a.word(0, 3, 0);
+            for (int i = 0; i < 9; i++) {
+                a.puts(5 - i % 6, 0);
+                a.takes(5 - i % 6);
+            }
+            a.from(image);
+            AcrosticLines as = Bounds.full();
+            for (int left = 8; left >= 0; left--) {
+                C.same("35: that may be undone", a.count(9), left);
+                for (int j = 0; j < 6; j++) {
+                    C.same("35: LINE " + j + ", " + left + " may be undone", a.about(j, 0), as.about(j, 0));
+                }
+                C.same("35: undone in the image", a.undo(), as.undo());
+            }
+        }
     }
 
     private static void whatImagesLeave() {

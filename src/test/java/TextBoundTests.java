@@ -161,11 +161,13 @@ public final class TextBoundTests {
     }
 
     private static void wordsThatAreNone() {
-        for (String none : new String[] {"v", "vers", "verses", "versee", "averse", "x", "word", "put", "take"}) {
+        for (String none : new String[] {"v", "vers", "verses", "versea", "versez", "averse", "verze", "terse", "x",
+            "word", "put", "take"}) {
             fault(none + " 0 1;", 0);
             fault("  " + none + " 0 1;", 2);
         }
-        for (String none : new String[] {"w", "wor", "words", "wo", "pu", "puts", "pot", "tak", "takes", "taken", "zzz", "versewordputtake"}) {
+        for (String none : new String[] {"w", "wor", "words", "wordz", "lord", "wo", "worm", "pu", "puts", "pot", "but", "pub",
+            "tak", "takes", "taken", "cake", "tale", "zzz", "versewordputtake"}) {
             fault(ONE + none + " 0 0;", 23);
             fault(ONE + none, 23);
         }
